@@ -18,7 +18,7 @@ public final class ModelTest {
     }
 
     public static void main(String[] args) {
-        for (int run = 0; run < 1500 && due.allRight(); run++) {
+        for (int run = 0; run < 2500 && due.allRight(); run++) {
             due.part("run " + run);
             Random random = new Random(run);
             mixedRun(random);
@@ -136,7 +136,7 @@ public final class ModelTest {
         };
     }
 
-    /** How a run draws its calls: how many keys, how they crowd, how many of each kind. */
+    /** How a run draws its calls: how many keys, how they crowd, how many of each kind, how it fills and empties in turn. */
     private static final class Profile {
         private static final int[] ODD = {0, 1, -1, 63, 64, 127, 128, Integer.MIN_VALUE, Integer.MAX_VALUE,
             PageBuckets.BAD, PageBuckets.NO, PageBuckets.FULL, PageBuckets.LOG, PageBuckets.NONE, 1000000000, 1000000001};
@@ -144,16 +144,21 @@ public final class ModelTest {
         final int looks;
         private final int keys;
         private final int crowd;
+        private final int stride;
         private final int removes;
+        private final int tide;
         private final int groups;
         private final int keeps;
         private int fresh;
+        private int written;
 
         Profile(Random random) {
             looks = new int[] {5, 30, 60}[random.nextInt(3)];
-            keys = new int[] {5, 20, 60, 300, 0}[random.nextInt(5)];
-            crowd = new int[] {1, 2, 8, 64}[random.nextInt(4)];
+            keys = new int[] {5, 20, 60, 300, 0, 0}[random.nextInt(6)];
+            crowd = new int[] {1, 2, 4, 8, 64}[random.nextInt(5)];
+            stride = new int[] {1, 3, 8}[random.nextInt(3)];
             removes = new int[] {2, 15, 30, 50}[random.nextInt(4)];
+            tide = new int[] {40, 100, 1000}[random.nextInt(3)];
             groups = new int[] {0, 3, 15}[random.nextInt(3)];
             keeps = new int[] {1, 3, 10}[random.nextInt(3)];
         }
@@ -167,8 +172,10 @@ public final class ModelTest {
                 int kind = random.nextInt(12);
                 return new Call(kind < 5 ? BEGIN : kind < 9 ? END : UNDO, 0, 0, 0);
             }
-            if (random.nextInt(100) < removes) {
-                return new Call(REMOVE, key(random), 0, 0);
+            written++;
+            boolean ebb = written / tide % 2 == 1;
+            if (random.nextInt(100) < (ebb ? 95 : removes)) {
+                return new Call(REMOVE, keyThatWas(random), 0, 0);
             }
             return new Call(PUT, key(random), value(random), 0);
         }
@@ -196,8 +203,18 @@ public final class ModelTest {
             if (random.nextInt(50) == 0) {
                 return odd(random);
             }
-            int i = keys == 0 ? (random.nextInt(4) == 0 ? random.nextInt(1 + fresh) : fresh++) : random.nextInt(keys);
-            return crowd == 64 ? i * 7 - 100 : Keys.inBucket(i % crowd * 8, i);
+            if (keys != 0) {
+                return numbered(random.nextInt(keys));
+            }
+            return numbered(random.nextInt(4) == 0 ? random.nextInt(1 + fresh) : fresh++);
+        }
+
+        private int keyThatWas(Random random) {
+            return keys != 0 ? key(random) : numbered(random.nextInt(1 + fresh));
+        }
+
+        private int numbered(int i) {
+            return crowd == 64 ? i * 7 - 100 : Keys.inBucket(i % crowd * stride, i);
         }
 
         private int value(Random random) {

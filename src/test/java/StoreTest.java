@@ -19,6 +19,7 @@ public final class StoreTest {
         leastFreePageComesFirst();
         shrinksBelowHalf();
         shrinkingJoinsInOrder();
+        shrinkingDealsOutPagesAnew();
         shrinksOverTheLevels();
         getCountsPages();
         due.finish();
@@ -356,6 +357,31 @@ public final class StoreTest {
         due.is("bucket(0, 2)", x.bucket(0, 2), 64);
         due.is("page(4, 2)", x.page(4, 2), NONE);
         due.is("page(4, 0)", x.page(4, 0), 0);
+    }
+
+    private static void shrinkingDealsOutPagesAnew() {
+        due.part("promise 3, shrinking frees the pages of both first");
+        PageBuckets x = new PageBuckets();
+        for (int i = 0; i < 5; i++) {
+            x.put(Keys.inBucket(1, i), 100 + i);
+        }
+        for (int i = 0; i < 5; i++) {
+            x.put(Keys.inBucket(0, i), i);
+        }
+        for (int i = 0; i < 3; i++) {
+            x.put(Keys.inBucket(2, i), 200 + i);
+        }
+        due.is("buckets", x.count(1), 5);
+        due.is("page(0, 1)", x.page(0, 1), 65);
+        for (int i = 0; i < 3; i++) {
+            x.remove(Keys.inBucket(1, i));
+            x.remove(Keys.inBucket(2, i));
+        }
+        due.is("buckets", x.count(1), 4);
+        due.is("page(0, 1)", x.page(0, 1), 64);
+        due.is("page(64, 2)", x.page(64, 2), 0);
+        due.is("page(65, 2)", x.page(65, 2), NONE);
+        due.is("cell(64, 0, 1)", x.cell(64, 0, 1), 4);
     }
 
     private static void shrinksOverTheLevels() {
