@@ -7,15 +7,8 @@ import java.util.Random;
  * all that can be looked at behind each run. No object gets more than 512 calls.
  */
 public final class ModelTest {
-    private static final int CALLS_OF_AN_OBJECT = 512;
-    private static final int PUT = 0, REMOVE = 1, GET = 2, BEGIN = 3, END = 4, UNDO = 5, KEEP = 6, STOP = 7;
-    private static final int ADDRESS = 8, BUCKET = 9, PAGE = 10, CELL = 11, ENTRY = 12, EFFORT = 13, COUNT = 14;
-    private static final String[] NAMES = {"put", "remove", "get", "begin", "end", "undo", "keep", "stop",
-        "address", "bucket", "page", "cell", "entry", "effort", "count"};
+    private static final int CALLS_OF_AN_OBJECT = Run.CALLS_OF_AN_OBJECT;
     private static final Due due = new Due();
-
-    private record Call(int name, int a, int b, int c) {
-    }
 
     public static void main(String[] args) {
         for (int run = 0; run < 2500 && due.allRight(); run++) {
@@ -26,6 +19,14 @@ public final class ModelTest {
         for (int run = 0; run < 150 && due.allRight(); run++) {
             due.part("long run " + run);
             wholeLookRun(new Random(run));
+        }
+        for (int run = 0; run < 20 && due.allRight(); run++) {
+            due.part("odd run " + run);
+            oddRun(new Random(run));
+        }
+        due.part("beyond 512 calls");
+        for (int run = 0; run < 20; run++) {
+            runBeyondTheLastCall(new Random(run));
         }
         due.finish();
     }
@@ -49,7 +50,7 @@ public final class ModelTest {
         for (int i = 0; i < length; i++) {
             writes.add(profile.write(random));
         }
-        List<Call> looks = allLooks();
+        List<Call> looks = Call.looksAtAll();
         int from = 0;
         while (from < looks.size() && due.allRight()) {
             PageBuckets x = new PageBuckets();
@@ -65,81 +66,49 @@ public final class ModelTest {
         }
     }
 
-    private static List<Call> allLooks() {
-        List<Call> looks = new ArrayList<>();
-        for (int what = -1; what <= 11; what++) {
-            looks.add(new Call(COUNT, what, 0, 0));
+    /** Some writes; then every call with all odd numbers in every place, on as many objects as it takes. */
+    private static void oddRun(Random random) {
+        Profile profile = new Profile(random);
+        List<Call> writes = new ArrayList<>();
+        for (int i = 0; i < 200; i++) {
+            writes.add(profile.write(random));
         }
-        looks.add(new Call(EFFORT, 0, 0, 0));
-        for (int what = 0; what < 3; what++) {
-            for (int b = -1; b <= 64; b++) {
-                looks.add(new Call(BUCKET, b, what, 0));
+        PageBuckets x = new PageBuckets();
+        Model model = new Model();
+        int calls = CALLS_OF_AN_OBJECT;
+        for (Call call : Profile.oddCalls()) {
+            if (calls == CALLS_OF_AN_OBJECT) {
+                x = new PageBuckets();
+                model = new Model();
+                for (Call write : writes) {
+                    compare(x, model, write);
+                }
+                calls = writes.size();
             }
-            for (int p = -1; p <= 128; p++) {
-                looks.add(new Call(PAGE, p, what, 0));
-            }
+            compare(x, model, call);
+            calls++;
         }
-        for (int i = -1; i < 300; i++) {
-            looks.add(new Call(ENTRY, i, 0, 0));
+    }
+
+    /** What calls answer behind the last one that is promised is free, but they must not throw, and must end. */
+    private static void runBeyondTheLastCall(Random random) {
+        Profile profile = new Profile(random);
+        PageBuckets x = new PageBuckets();
+        for (int i = 0; i < 20 * CALLS_OF_AN_OBJECT; i++) {
+            Call call = random.nextInt(100) < profile.looks ? profile.look(random) : profile.write(random);
+            call.on(x);
         }
-        for (int p = 0; p < 128; p++) {
-            for (int i = 0; i < 4; i++) {
-                looks.add(new Call(CELL, p, i, 0));
-                looks.add(new Call(CELL, p, i, 1));
-            }
-        }
-        return looks;
     }
 
     private static void compare(PageBuckets x, Model model, Call call) {
-        String told = NAMES[call.name()] + "(" + call.a() + ", " + call.b() + ", " + call.c() + ")";
-        due.is(told, answer(x, call), wanted(model, call));
-    }
-
-    private static int answer(PageBuckets x, Call call) {
-        return switch (call.name()) {
-            case PUT -> x.put(call.a(), call.b());
-            case REMOVE -> x.remove(call.a());
-            case GET -> x.get(call.a());
-            case BEGIN -> x.begin();
-            case END -> x.end();
-            case UNDO -> x.undo();
-            case KEEP -> x.keep();
-            case STOP -> x.stop(call.a());
-            case ADDRESS -> x.address(call.a());
-            case BUCKET -> x.bucket(call.a(), call.b());
-            case PAGE -> x.page(call.a(), call.b());
-            case CELL -> x.cell(call.a(), call.b(), call.c());
-            case ENTRY -> x.entry(call.a());
-            case EFFORT -> x.effort();
-            default -> x.count(call.a());
-        };
-    }
-
-    private static int wanted(Model x, Call call) {
-        return switch (call.name()) {
-            case PUT -> x.put(call.a(), call.b());
-            case REMOVE -> x.remove(call.a());
-            case GET -> x.get(call.a());
-            case BEGIN -> x.begin();
-            case END -> x.end();
-            case UNDO -> x.undo();
-            case KEEP -> x.keep();
-            case STOP -> x.stop(call.a());
-            case ADDRESS -> x.address(call.a());
-            case BUCKET -> x.bucket(call.a(), call.b());
-            case PAGE -> x.page(call.a(), call.b());
-            case CELL -> x.cell(call.a(), call.b(), call.c());
-            case ENTRY -> x.entry(call.a());
-            case EFFORT -> x.effort();
-            default -> x.count(call.a());
-        };
+        due.is(call.toString(), call.on(x), call.on(model));
     }
 
     /** How a run draws its calls: how many keys, how they crowd, how many of each kind, how it fills and empties in turn. */
     private static final class Profile {
-        private static final int[] ODD = {0, 1, -1, 63, 64, 127, 128, Integer.MIN_VALUE, Integer.MAX_VALUE,
-            PageBuckets.BAD, PageBuckets.NO, PageBuckets.FULL, PageBuckets.LOG, PageBuckets.NONE, 1000000000, 1000000001};
+        private static final int[] ODD = {0, 1, 2, 3, 4, 10, 11, -1, 63, 64, 127, 128, Integer.MIN_VALUE,
+            Integer.MAX_VALUE, PageBuckets.BAD, PageBuckets.NO, PageBuckets.FULL, PageBuckets.LOG, PageBuckets.NONE,
+            1000000000, 1000000001};
 
         final int looks;
         private final int keys;
@@ -163,40 +132,52 @@ public final class ModelTest {
             keeps = new int[] {1, 3, 10}[random.nextInt(3)];
         }
 
+        static List<Call> oddCalls() {
+            List<Call> calls = new ArrayList<>();
+            for (int a : ODD) {
+                calls.addAll(List.of(Call.get(a), Call.remove(a), Call.address(a), Call.entry(a), Call.count(a), Call.stop(a)));
+                for (int b : ODD) {
+                    calls.addAll(List.of(Call.put(a, b), Call.bucket(a, b), Call.page(a, b)));
+                    for (int c : ODD) {
+                        calls.add(Call.cell(a, b, c));
+                    }
+                }
+            }
+            return calls;
+        }
+
         Call write(Random random) {
             int drawn = random.nextInt(100);
             if (drawn < keeps) {
-                return random.nextInt(4) == 0 ? stop(random) : new Call(KEEP, 0, 0, 0);
+                return random.nextInt(4) == 0 ? drawnStop(random) : Call.keep();
             }
             if (drawn < keeps + groups) {
                 int kind = random.nextInt(12);
-                return new Call(kind < 5 ? BEGIN : kind < 9 ? END : UNDO, 0, 0, 0);
+                return kind < 5 ? Call.begin() : kind < 9 ? Call.end() : Call.undo();
             }
             written++;
             boolean ebb = written / tide % 2 == 1;
             if (random.nextInt(100) < (ebb ? 95 : removes)) {
-                return new Call(REMOVE, keyThatWas(random), 0, 0);
+                return Call.remove(keyThatWas(random));
             }
-            return new Call(PUT, key(random), value(random), 0);
+            return Call.put(key(random), value(random));
         }
 
         Call look(Random random) {
-            int kind = GET + random.nextInt(8);
-            switch (kind) {
-                case GET: return new Call(GET, key(random), 0, 0);
-                case 3: return new Call(ADDRESS, key(random), 0, 0);
-                case 4: return new Call(BUCKET, number(random, 66), what(random, 3), 0);
-                case 5: return new Call(PAGE, number(random, 128), what(random, 3), 0);
-                case 6: return new Call(CELL, number(random, 128), what(random, 4), what(random, 2));
-                case 7: return new Call(ENTRY, number(random, 300), 0, 0);
-                case 8: return new Call(EFFORT, 0, 0, 0);
-                default: return new Call(COUNT, what(random, 11), 0, 0);
-            }
+            return switch (random.nextInt(8)) {
+                case 0 -> Call.get(key(random));
+                case 1 -> Call.address(key(random));
+                case 2 -> Call.bucket(number(random, 66), what(random, 3));
+                case 3 -> Call.page(number(random, 128), what(random, 3));
+                case 4 -> Call.cell(number(random, 128), what(random, 4), what(random, 2));
+                case 5 -> Call.entry(number(random, 300));
+                case 6 -> Call.effort();
+                default -> Call.count(what(random, 11));
+            };
         }
 
-        private Call stop(Random random) {
-            int n = random.nextInt(20) == 0 ? odd(random) : random.nextInt(30);
-            return new Call(STOP, n, 0, 0);
+        private Call drawnStop(Random random) {
+            return Call.stop(random.nextInt(20) == 0 ? odd(random) : random.nextInt(30));
         }
 
         private int key(Random random) {
