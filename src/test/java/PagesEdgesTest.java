@@ -326,6 +326,10 @@ public final class PagesEdgesTest {
         run.chain(1, 1);
         run.is(Call.get(Keys.inBucket(1, 5)), 5);
         run.is(Call.get(Keys.inBucket(1, 0)), NONE);
+        Run onOnePage = new Run(due).fill(2, 0, 4).empty(2, 0, 1);
+        onOnePage.entries(3, 1, 2);
+        onOnePage.empty(2, 3, 4);
+        onOnePage.entries(2, 1);
     }
 
     private static void takenOutTheLastItself() {
